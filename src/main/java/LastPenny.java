@@ -43,7 +43,7 @@ public final class LastPenny {
         if (!within(c, 0, 127)) {
             return BAD;
         }
-        return tape.put(c) ? tape.length : FULL;
+        return tape.addByte(c) ? tape.length : FULL;
     }
 
     public int end(int n) {
@@ -493,7 +493,7 @@ public final class LastPenny {
         if (found != 0) {
             return -10 - found;
         }
-        sheets[k].put(i, v);
+        sheets[k].setCell(i, v);
         return 1;
     }
 
@@ -943,11 +943,10 @@ public final class LastPenny {
         private int at;
         private int token;
         private int start;
-        private int value;
         private boolean slumpTold;
         private boolean coinTold;
 
-        boolean put(int c) {
+        boolean addByte(int c) {
             if (length >= TAPE_BYTES) {
                 return false;
             }
@@ -1030,7 +1029,7 @@ public final class LastPenny {
             world.addGift(when, from, to, takeNumber(1, MOST_GIVEN));
         }
 
-        /** The first fault alone counts: behind it nothing more is read. */
+        /** The first fault alone counts: behind it nothing more is read, and what was told is thrown away. */
         private void refuse(int which, int place) {
             if (fault == 0) {
                 fault = which;
@@ -1042,7 +1041,10 @@ public final class LastPenny {
             next();
             if (token != NUMBER) {
                 refuse(2, start);
-            } else if (!within(value, low, high)) {
+                return low;
+            }
+            int value = numberRead();
+            if (!within(value, low, high)) {
                 refuse(3, start);
             }
             return value;
@@ -1072,7 +1074,9 @@ public final class LastPenny {
             } else if (numberEnd > start) {
                 token = NUMBER;
                 at = numberEnd;
-                readNumber();
+                if (at - start > 2) {
+                    refuse(1, start);
+                }
             } else {
                 token = STOP;
                 at = start + 1;
@@ -1091,15 +1095,12 @@ public final class LastPenny {
             return i;
         }
 
-        private void readNumber() {
-            if (at - start > 2) {
-                refuse(1, start);
-                return;
-            }
-            value = 0;
+        private int numberRead() {
+            int value = 0;
             for (int i = start; i < at; i++) {
                 value = value * 10 + bytes[i] - '0';
             }
+            return value;
         }
 
         /** The first four lines tell ones, numbered as their kinds are. */
@@ -1170,7 +1171,7 @@ public final class LastPenny {
             return first != 0 ? first : faultAt(i + 1);
         }
 
-        void put(int i, int v) {
+        void setCell(int i, int v) {
             cells[i] = lane == 0 ? (byte) v : lane == 1 ? (short) v : v;
         }
     }
