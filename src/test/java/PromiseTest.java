@@ -141,6 +141,7 @@ public final class PromiseTest {
         due("kind", x.one(0, 0), 3);
         due("trade", x.one(0, 2), 20);
         due("slump is not told", x.rule(2), 0);
+        due("slump 0", feedAll(x, "slump 0;"), 1);
         String full = "plain 1 1;miser 2 2;founder 3 3;lucky 4 4;plain 5 5;coin 4;slump 9;";
         due("five ones", feedAll(x, full + "gift 20 0 4 20;gift 0 4 0 1;gift 1 1 2 3;gift 1 1 2 3;"), 11);
         due("people", x.rule(0), 5);
@@ -307,6 +308,9 @@ public final class PromiseTest {
         due("a miser with 1", poor.quarters(1), 0);
         due("a miser with 0", poor.quarters(1), 1);
         due("he kept it once", poor.one(0, 3), 1);
+        LastPenny alone = told("plain 50 10;");
+        alone.quarters(3);
+        due("who is alone keeps it", alone.one(0, 3), 3);
         LastPenny lucky = told("lucky 5 10;plain 5 10;plain 4 10;plain 3 10;gift 0 0 1 2;");
         lucky.quarters(1);
         due("by means behind the gifts", lucky.one(0, 1), 8);
@@ -461,6 +465,9 @@ public final class PromiseTest {
         due("61", y.kind(0, 61, 0), BAD);
         due("what", y.kind(0, 1, -1), BAD);
         due("kind stays", y.one(0, 0), 0);
+        LastPenny above = told("plain 50 20;plain 1 10;plain 1 10;plain 1 10;plain 1 10;");
+        due("lucky is best", above.kind(0, 1, 0), 3);
+        due("means of a lucky one", above.kind(0, 1, 1), 73);
     }
 
     private static void ruin() {
@@ -494,6 +501,12 @@ public final class PromiseTest {
         LastPenny later = told("plain 30 10;miser 0 9;coin 1;");
         later.quarters(2);
         due("in this quarter", later.help(1, 0), 101);
+        due("who gives is 1", told("plain 0 10;miser 50 10;coin 1;").help(1, 0), 1001);
+        LastPenny much = told("plain 1 0;miser 90 10;coin 1;");
+        due("20 are needed", much.help(2, 0), 1020);
+        due("nobody is ruined by it", much.help(2, 1), 0);
+        LastPenny five = told("miser 9 9;miser 9 9;miser 9 9;miser 50 10;miser 0 9;");
+        due("by 0 to 4 of five", five.help(3, 0), 401);
         swaps();
     }
 
@@ -503,6 +516,10 @@ public final class PromiseTest {
         due("swap", s.swap(1, 0), 1);
         due("ruined by it", s.swap(1, 1), 1);
         due("trades stay", s.one(0, 2), 0);
+        LastPenny other = told("plain 50 10;plain 50 12;plain 0 10;");
+        due("the other two", other.swap(1, 0), 12);
+        due("nobody is ruined then", other.swap(1, 1), 0);
+        due("of five", told("miser 9 9;miser 9 9;miser 9 9;miser 50 10;miser 0 9;").swap(1, 0), 34);
         due("no quarters", s.swap(0, 0), NONE);
         due("61", s.swap(61, 0), BAD);
         due("below", s.swap(-1, 0), BAD);
@@ -646,6 +663,10 @@ public final class PromiseTest {
         due("slump 9 by a seed below 0", x.drift(-2, 1, 0), 16);
         due("slump stays", x.rule(2), 3);
         due("quarter stays", x.rule(1), 0);
+        LastPenny y = told("plain 99 10;");
+        due("a far seed", y.drift(123456789, 9, 0), 108);
+        due("a far seed below 0", y.drift(-987654321, 9, 0), 106);
+        due("another", y.drift(54321, 9, 0), 122);
         due("where", x.drift(1, 60, 1), 0);
         due("none", x.drift(1, 0, 0), BAD);
         due("61", x.drift(1, 61, 0), BAD);
