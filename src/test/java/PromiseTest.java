@@ -442,6 +442,8 @@ public final class PromiseTest {
         due("no such one", x.trade(3, 0), BAD);
         due("what", x.trade(0, 2), BAD);
         due("trade stays", x.one(2, 2), 10);
+        due("behind 60", told("miser 60 8;plain 0 10;").trade(1, 1), 60);
+        due("behind 61", told("miser 61 8;plain 0 10;").trade(1, 1), NONE);
         promise = 21;
         LastPenny k = told("plain 0 10;founder 0 10;miser 0 10;");
         due("keeper", k.keeper(1, 0), 1);
