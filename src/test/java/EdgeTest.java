@@ -8,8 +8,8 @@ import java.nio.file.Path;
  */
 public final class EdgeTest {
     private static final Path DOCUMENT = Path.of("../shared/DOC.md");
-    private static final int TERMS = 0;
-    private static final boolean[] covered = new boolean[41];
+    private static final int TERMS = 0, WHOLE = 41;
+    private static final boolean[] covered = new boolean[42];
     private static String document;
     private static int wrong;
     private static int sentences;
@@ -18,24 +18,26 @@ public final class EdgeTest {
     private static void edge(int promise, String sentence, String script) {
         covered[promise] = true;
         sentences++;
-        if (!section(promise).contains(sentence)) tell(promise, sentence, "the document does not say so");
+        if (!document.isEmpty() && !section(promise).contains(sentence)) tell(promise, sentence, "the document does not say so");
         for (String what : Script.wrongs(Script.rows(script))) tell(promise, sentence, what);
     }
 
     private static void tell(int promise, String sentence, String what) {
         wrong++;
-        System.out.println((promise == TERMS ? "terms" : "promise " + promise) + ", '" + sentence + "': " + what);
+        System.out.println((promise == TERMS ? "terms" : promise == WHOLE ? "the whole" : "promise " + promise) + ", '" + sentence + "': " + what);
     }
 
     private static String section(int promise) {
-        String heading = promise == TERMS ? "## Terms" : "## Promise " + promise + ":";
+        String heading = promise == TERMS ? "## Terms" : promise == WHOLE ? "## What it is" : "## Promise " + promise + ":";
         int start = document.indexOf(heading);
         int end = document.indexOf("\n## ", start + 1);
         return start < 0 || end < 0 ? "" : document.substring(start, end);
     }
 
     public static void main(String[] args) throws IOException {
-        document = Files.readString(DOCUMENT);
+        document = Files.exists(DOCUMENT) ? Files.readString(DOCUMENT) : "";
+        if (document.isEmpty()) System.out.println("EdgeTest: " + DOCUMENT + " is not here, its sentences are not looked up");
+        lastCalls();
         order();
         fractions();
         peopleAndRing();
@@ -64,6 +66,26 @@ public final class EdgeTest {
         for (int i = 0; i < covered.length; i++) if (!covered[i]) tell(i, "", "no sentence has a test");
         System.out.println("EdgeTest: " + (wrong == 0 ? sentences + " sentences hold at their edges" : wrong + " wrong"));
         if (wrong != 0) System.exit(1);
+    }
+
+    private static void lastCalls() {
+        edge(WHOLE, "An object is used for at most 512 calls after it has been made", """
+            told "plain 0 10;plain 0 10;"
+            33 x quarters(30)
+            quarters(9)
+            keep(0) = 0
+            6 x see(0, 1)
+            419 x ask(0, 0) = NONE
+            text() = 0
+            rule(0) = 0
+            sheet(0, 2, 40) = 1
+            lay(0, 39, 1) = 1
+            feed "plain 0 10;plain 0 10;"
+            text() = 2
+            runs(60, 0) = 300
+            // the 512th
+            quarters(2) = 1
+            """);
     }
 
     // ---- terms: answers
@@ -354,6 +376,13 @@ public final class EdgeTest {
             one(0, 4) = 5
             told "lucky 5 10;"
             one(0, 4) = 5
+            // the first and the last of PEOPLE are looked at, too
+            told "plain 0 10;lucky 5 10;plain 0 10;coin 1;"
+            one(1, 4) = 9
+            alter(0, 1, 5) = 0
+            one(1, 4) = 7
+            alter(2, 1, 5) = 0
+            one(1, 4) = 5
             """);
     }
 
@@ -590,6 +619,16 @@ public final class EdgeTest {
         edge(TERMS, "2 a TOKEN that can not stand there (a NAME that begins no line; or the end: the length)", base + """
             fault 2 at 0 "plainx 1 1;"
             fault 2 at 0 "plai 1 1;"
+            fault 2 at 0 "slain 1 1;"
+            fault 2 at 0 "plaid 1 1;"
+            fault 2 at 0 "wiser 1 1;"
+            fault 2 at 0 "pounder 1 1;"
+            fault 2 at 0 "ducky 1 1;"
+            fault 2 at 0 "clump 1;"
+            fault 2 at 0 "join 0;"
+            fault 2 at 0 "rift 0 0 1 1;"
+            """);
+        edge(TERMS, "a NAME that begins no line", base + """
             fault 2 at 0 "gifts 0 0 1 1;"
             fault 2 at 0 "coi 0;"
             fault 2 at 0 "slumps 1;"
@@ -686,6 +725,22 @@ public final class EdgeTest {
             rule(6) = 0
             count(0) = 0
             count(1) = 0
+            """);
+        edge(TERMS, "A text that is taken tells all, in place of what there was", """
+            // nothing of what a read went through is left, either
+            told "plain 9 9;miser 9 9;gift 9 0 1 1;slump 2;coin 1;"
+            quarters(3)
+            see(1, 1) = 1
+            sheet(0, 0, 2) = 1
+            read(0, 0, 0, 1) = 1
+            say "miser 9 9;miser 9 9;" = 2
+            rule(1) = 0
+            rule(2) = 0
+            rule(3) = 0
+            rule(6) = 0
+            one(0, 3) = 0
+            one(1, 3) = 0
+            count(0) = 0
             """);
         edge(4, "how many lines; -10 less the place of its FAULT: that which was told stays", setting + """
             text() = 0
@@ -1878,6 +1933,27 @@ public final class EdgeTest {
             back(1) = 1
             """);
         edge(35, "All is as IMAGE k", """
+            // who was SEEN, and behind how many
+            told "plain 0 5;plain 0 10;gift 1 1 0 20;"
+            see(2, 1) = 1
+            see(1, 0) = 2
+            keep(0) = 0
+            forget(0) = 2
+            see(3, 0) = 1
+            see(4, 1) = 2
+            keep(1) = 0
+            forget(0) = 2
+            see(0, 1) = 1
+            trades(1) = 0
+            back(0) = 0
+            count(0) = 2
+            trades(1) = 1048576
+            forget(1) = 2
+            trades(1) = 1048576
+            back(0) = 0
+            count(0) = 2
+            """);
+        edge(35, "All is as IMAGE k", """
             // what no image is: the tape, sheets, the faults
             told "plain 1 1;"
             keep(0) = 0
@@ -1921,6 +1997,8 @@ public final class EdgeTest {
             lay(0, 1, 700) = 1
             read(0, 1, 0, 1) = 1
             one(0, 1) = 704
+            lay(0, 0, 4) = 1
+            read(0, 1, 0, 1) ! -20
             sheet(0, 1, 40) = 1
             read(0, 1, 0, 1) = 1
             one(0, 1) = 4
