@@ -1,6 +1,8 @@
 import java.io.IOException;
 import java.nio.file.Files;
 import java.nio.file.Path;
+import java.util.HashSet;
+import java.util.Set;
 
 /**
  * Each sentence of the document that names a boundary case, with a run of its own. Script says how the rows look;
@@ -12,12 +14,14 @@ public final class EdgeTest {
     private static final boolean[] covered = new boolean[42];
     private static String document;
     private static int wrong;
-    private static int sentences;
+    private static int runs;
+    private static final Set<String> sentences = new HashSet<>();
 
     /** The sentence must stand in the document, so that no test goes on when its words are gone. */
     private static void edge(int promise, String sentence, String script) {
         covered[promise] = true;
-        sentences++;
+        runs++;
+        sentences.add(promise + " " + sentence);
         if (!document.isEmpty() && !section(promise).contains(sentence)) tell(promise, sentence, "the document does not say so");
         for (String what : Script.wrongs(Script.rows(script))) tell(promise, sentence, what);
     }
@@ -64,7 +68,7 @@ public final class EdgeTest {
         sheetsAndReads();
         counts();
         for (int i = 0; i < covered.length; i++) if (!covered[i]) tell(i, "", "no sentence has a test");
-        System.out.println("EdgeTest: " + (wrong == 0 ? sentences + " sentences hold at their edges" : wrong + " wrong"));
+        System.out.println("EdgeTest: " + (wrong == 0 ? runs + " runs at the edges of " + sentences.size() + " sentences are as due" : wrong + " wrong"));
         if (wrong != 0) System.exit(1);
     }
 
