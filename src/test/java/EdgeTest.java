@@ -1406,6 +1406,11 @@ public final class EdgeTest {
             round() = 1
             told "miser 1 8;plain 50 10;"
             round() = 1
+            // now counts for whoever has it, 0 or another
+            told "plain 50 10;miser 1 8;coin 1;"
+            round() = 1
+            told "plain 50 10;plain 5 10;plain 60 10;coin 2;"
+            round() = 2
             told "miser 60 8;plain 0 10;"
             round() = 60
             told "miser 61 8;plain 0 10;"
@@ -1872,6 +1877,16 @@ public final class EdgeTest {
             drift(0, 1, -1) ! BAD
             rule(1) = 0
             rule(2) = 3
+            """);
+        edge(33, "with whom THE COIN is then (1)", """
+            // seed 0 makes SLUMP 0, by which 0 has 10 and hands it on; seed -1 makes 9
+            told "plain 5 10;plain 0 10;slump 3;"
+            drift(0, 1, 1) ! 1
+            drift(-1, 1, 1) ! 0
+            slump(9)
+            drift(0, 1, 1) ! 1
+            hand(1)
+            drift(-1, 1, 1) ! 1
             """);
         edge(33, "STATE: there is nobody.", """
             drift(0, 1, 0) ! STATE
