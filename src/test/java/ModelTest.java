@@ -30,6 +30,8 @@ public final class ModelTest {
     }
 
     private void check(String call, long got, long want) {
+        // What an object answers behind its 512th call is free, so it is not looked at.
+        if (calls == CALLS) return;
         calls++;
         log.append(call).append(" = ").append(got).append('\n');
         if (got != want && wrong == null) wrong = call + " answered " + got + ", the model says " + want;
@@ -52,11 +54,17 @@ public final class ModelTest {
 
     private void go() {
         if (random.nextInt(8) != 0) tell(goodText());
+        if (random.nextInt(8) == 0) growOld();
         while (goesOn()) {
             if (random.nextInt(60) == 0) tell(random.nextInt(3) == 0 ? goodText() : brokenText());
             else if (random.nextInt(40) == 0) fillSheet();
             else call(random.nextInt(40));
         }
+    }
+
+    /** Up to quarter 990, so that quarters() and read() come to where they are refused. */
+    private void growOld() {
+        for (int i = 0; i < 33; i++) check("quarters(30)", real.quarters(30), model.quarters(30));
     }
 
     private void tell(String text) {
